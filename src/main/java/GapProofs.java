@@ -151,11 +151,12 @@ public final class GapProofs {
             return Names.count(theName);
         }
         int z = tree.zoneOf(theName);
+        if (what == 1) {
+            return z;
+        }
         owners.gather(z);
         int at = owners.indexOf(theName);
         switch (what) {
-            case 1:
-                return z;
             case 2:
                 return owners.closestLabels(theName) == Names.count(theName) ? 1 : 0;
             case 3:

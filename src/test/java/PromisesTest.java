@@ -48,6 +48,7 @@ public final class PromisesTest {
         checkTampered();
         checkStarAndGap();
         checkPlain();
+        checkFirstItem();
         checked();
         entry();
         entryOrder();
@@ -770,7 +771,8 @@ public final class PromisesTest {
         due("alter(1, 6, 3)", x.alter(1, 6, 3), 0);
         due("alter(1, 7, 4)", x.alter(1, 7, 4), 0);
         due("alter(1, 8, 1)", x.alter(1, 8, 1), 10);
-        due("alter(1, 9, 9972)", x.alter(1, 9, 9972), mark);
+        due("alter(1, 9, 0)", x.alter(1, 9, 0), mark);
+        due("alter(1, 9, 9972)", x.alter(1, 9, 9972), 0);
         row("item 1", itemRow(x, 1), 2, 0, 1, NONE, 0, 999, 3, 4, 1);
         due("item(1, 9)", x.item(1, 9), 9972);
         due("item(1, 10)", x.item(1, 10), mixed(2, 0, 1, 1, 0, 0, 0, 999, 3, 4));
@@ -1018,6 +1020,40 @@ public final class PromisesTest {
         x.ask(0);
         x.lose(1);
         due("a SIGNED zone without digests", x.check(), -21);
+    }
+
+    /** What is KNOWN from the cache needs no item ahead: the one that is wanted may be item 0. */
+    private static void checkFirstItem() {
+        promise = 21;
+        GapProofs x = told("zone a;plain b;rec c.a a 3;rec e.d t 1;");
+        call(x, ".");
+        x.ask(0);
+        due("check() of the root", x.check(), 1);
+        row("entries", entries(x), 1);
+        x.lose(0);
+        due("by its own link as item 0", x.check(), 1);
+        call(x, "d");
+        x.ask(0);
+        x.lose(0);
+        due("by the link to a name below as item 0", x.check(), 1);
+        call(x, "*");
+        x.ask(0);
+        x.lose(0);
+        due("by the gap as item 0", x.check(), 4);
+        call(x, "b");
+        x.ask(0);
+        x.lose(0);
+        due("rule(4)", x.rule(4), 1);
+        due("by the link of a PLAIN zone as item 0", x.check(), 5);
+        call(x, "c.a");
+        x.ask(0);
+        x.lose(0);
+        due("by DIGESTS as item 0", x.check(), 0);
+        row("entries", entries(x), 1, 10, 11);
+        x.lose(0);
+        x.lose(0);
+        due("by the record as item 0", x.check(), 0);
+        due("checked(0)", x.checked(0), 3);
     }
 
     private static void checked() {
@@ -1490,5 +1526,32 @@ public final class PromisesTest {
         x.remove(1);
         due("an image stays as it was", x.back(0), 1);
         due("answer(1, 1)", x.answer(1, 1), 5);
+        backCache();
+    }
+
+    private static void backCache() {
+        GapProofs x = told("zone a;zone b.a;rec c.b.a t 5;rec d.a a 1;span 4;");
+        x.keep(0);
+        call(x, "d.a");
+        x.publish(0, 5);
+        x.ask(0);
+        x.check();
+        x.keep(1);
+        x.tick(4);
+        call(x, "c.b.a");
+        x.ask(1);
+        x.check();
+        row("entries", entries(x), 10, 11, 20, 21);
+        due("back(1)", x.back(1), 2);
+        row("entries of image 1", entries(x), 1, 10, 11);
+        row("entry 0", entryRow(x, 0), 0, 1, 5, 10, 0, 1, 4);
+        row("entry 1", entryRow(x, 1), 1, 0, 11, 0, 0, 1, 4);
+        row("entry 2", entryRow(x, 2), 1, 1, 11, 0, 0, 1, 4);
+        due("back(0)", x.back(0), 2);
+        row("entries of image 0", entries(x));
+        due("zone(0, 5)", x.zone(0, 5), 1);
+        due("back(1)", x.back(1), 2);
+        row("entries of image 1", entries(x), 1, 10, 11);
+        due("rule(8)", x.rule(8), 2);
     }
 }
