@@ -1,23 +1,5 @@
 /** For each promise of the document: ordinary inputs, the edges it names, and wrong inputs, with the answers by hand. */
-public final class PromisesTest {
-    private static final int BAD = -1, STATE = -2, FULL = -3, NONE = -4;
-    private static final int[] FAR = {Integer.MIN_VALUE, -1000000, -2, -1, Integer.MAX_VALUE, 1000000};
-
-    private static int wrong = 0;
-    private static int promise = 0;
-
-    private static void due(String call, int got, int want) {
-        if (got != want) {
-            wrong++;
-            System.out.println("promise " + promise + ": " + call + " answered " + got + ", due is " + want);
-        }
-    }
-
-    private static void row(String call, int[] got, int... want) {
-        due(call + " (how many)", got.length, want.length);
-        for (int i = 0; i < Math.min(got.length, want.length); i++) due(call + " [" + i + "]", got[i], want[i]);
-    }
-
+public final class PromisesTest extends Bench {
     public static void main(String[] args) {
         newObject();
         feed();
@@ -65,76 +47,13 @@ public final class PromisesTest {
         remove();
         keep();
         back();
-        System.out.println(wrong == 0 ? "promises: all answers are as due" : "promises: " + wrong + " answers are not as due");
-        if (wrong != 0) System.exit(1);
-    }
-
-    private static int tell(GapProofs x, String s) {
-        for (int i = 0; i < s.length(); i++) x.feed(s.charAt(i));
-        return x.text();
-    }
-
-    private static GapProofs told(String s) {
-        GapProofs x = new GapProofs();
-        int lines = 0;
-        for (int i = 0; i < s.length(); i++) if (s.charAt(i) == ';') lines++;
-        due("text of " + s, tell(x, s), lines);
-        return x;
-    }
-
-    /** THE NAME as it is written in a text: LABEL 0 last. */
-    private static void call(GapProofs x, String dotted) {
-        x.up(x.name(0));
-        if (dotted.equals(".")) return;
-        String[] labels = dotted.split("\\.");
-        for (int i = labels.length - 1; i >= 0; i--) {
-            String l = labels[i];
-            if (l.equals("*")) x.label(27, 0, 0);
-            else x.label(l.charAt(0) - 96, l.length() > 1 ? l.charAt(1) - 96 : 0, l.length() > 2 ? l.charAt(2) - 96 : 0);
-        }
-    }
-
-    private static int[] itemRow(GapProofs x, int i) {
-        int[] r = new int[9];
-        for (int w = 0; w < 9; w++) r[w] = x.item(i, w);
-        return r;
-    }
-
-    private static int[] entryRow(GapProofs x, int i) {
-        int[] r = new int[7];
-        for (int w = 0; w < 7; w++) r[w] = x.entry(i, w);
-        return r;
-    }
-
-    private static int[] kinds(GapProofs x) {
-        int[] r = new int[Math.max(0, x.rule(4))];
-        for (int i = 0; i < r.length; i++) r[i] = 10 * x.item(i, 1) + x.item(i, 0);
-        return r;
-    }
-
-    /** ENTRIES as 10 times the ZONE and 1 for KEYS. */
-    private static int[] entries(GapProofs x) {
-        int[] r = new int[x.rule(5)];
-        for (int i = 0; i < r.length; i++) r[i] = 10 * x.entry(i, 0) + x.entry(i, 1);
-        return r;
-    }
-
-    private static int[] rules(GapProofs x) {
-        int[] r = new int[9];
-        for (int w = 0; w < 9; w++) r[w] = x.rule(w);
-        return r;
-    }
-
-    private static int[] zoneRow(GapProofs x, int z) {
-        int[] r = new int[8];
-        for (int w = 0; w < 8; w++) r[w] = x.zone(z, w);
-        return r;
+        finish("promises");
     }
 
     // ---- 1
 
     private static void newObject() {
-        promise = 1;
+        where = "promise 1";
         GapProofs x = new GapProofs();
         row("rule", rules(x), 1, 0, 0, 10, NONE, 0, 0, 0, 0);
         row("zone 0", zoneRow(x, 0), 1, NONE, 0, 1, 0, 1, 1, 10);
@@ -165,7 +84,7 @@ public final class PromisesTest {
     // ---- 2 to 5
 
     private static void feed() {
-        promise = 2;
+        where = "promise 2";
         GapProofs x = new GapProofs();
         for (int c : FAR) due("feed far", x.feed(c), BAD);
         due("feed(128)", x.feed(128), BAD);
@@ -180,7 +99,7 @@ public final class PromisesTest {
     }
 
     private static void end() {
-        promise = 3;
+        where = "promise 3";
         GapProofs x = new GapProofs();
         due("end(1) of none", x.end(1), BAD);
         due("end(0) of none", x.end(0), 0);
@@ -197,7 +116,7 @@ public final class PromisesTest {
     }
 
     private static void text() {
-        promise = 4;
+        where = "promise 4";
         GapProofs x = new GapProofs();
         due("empty", x.text(), 0);
         due("blanks", tell(x, "    "), 0);
@@ -243,15 +162,8 @@ public final class PromisesTest {
         due("back(0)", x.back(0), STATE);
     }
 
-    private static void faultOf(String s, int number, int place) {
-        GapProofs x = new GapProofs();
-        due("text of " + s, tell(x, s), -10 - place);
-        due("fault of " + s, x.fault(), number);
-        due("tape after " + s, x.rule(7), 0);
-    }
-
     private static void textFaults() {
-        promise = 4;
+        where = "promise 4";
         faultOf("A", 1, 0);
         faultOf("zone a,", 1, 6);
         faultOf("zone aB;", 1, 6);
@@ -320,7 +232,7 @@ public final class PromisesTest {
     }
 
     private static void textKeepsWhatWasTold() {
-        promise = 4;
+        where = "promise 4";
         GapProofs x = told("zone a;rec b.a t 7;span 4;");
         x.tick(3);
         call(x, "b.a");
@@ -336,7 +248,7 @@ public final class PromisesTest {
     }
 
     private static void fault() {
-        promise = 5;
+        where = "promise 5";
         GapProofs x = new GapProofs();
         due("fault() at first", x.fault(), 0);
         tell(x, "span 61;");
@@ -355,7 +267,7 @@ public final class PromisesTest {
     // ---- 6 to 10
 
     private static void label() {
-        promise = 6;
+        where = "promise 6";
         GapProofs x = new GapProofs();
         due("label(0, 0, 0)", x.label(0, 0, 0), BAD);
         due("label(0, 1, 0)", x.label(0, 1, 0), BAD);
@@ -384,7 +296,7 @@ public final class PromisesTest {
     }
 
     private static void up() {
-        promise = 7;
+        where = "promise 7";
         GapProofs x = new GapProofs();
         due("up(0) of the root", x.up(0), 0);
         due("up(1) of the root", x.up(1), BAD);
@@ -401,7 +313,7 @@ public final class PromisesTest {
     }
 
     private static void owner() {
-        promise = 8;
+        where = "promise 8";
         GapProofs x = told("zone b;rec a a 1;rec c.b a 1;rec * a 1;rec b t 4;rec ab t 5;rec b.a m 1;");
         for (int n : FAR) due("owner far z", x.owner(n, 0), BAD);
         due("owner(2, 0)", x.owner(2, 0), BAD);
@@ -422,15 +334,8 @@ public final class PromisesTest {
         due("the name stays", x.letter(1, 0), 3);
     }
 
-    private static int[] nameRow(GapProofs x, String dotted) {
-        call(x, dotted);
-        int[] r = new int[7];
-        for (int w = 0; w < 7; w++) r[w] = x.name(w);
-        return r;
-    }
-
     private static void name() {
-        promise = 9;
+        where = "promise 9";
         GapProofs x = told("zone b.a;plain d;rec c.b.a a 1;rec b.a m 2;rec x.d t 1;rec e.f.g a 1;rec g t 1;rec g a 1;");
         for (int n : FAR) due("name far", x.name(n), BAD);
         due("name(7)", x.name(7), BAD);
@@ -456,7 +361,7 @@ public final class PromisesTest {
     }
 
     private static void nameOrder() {
-        promise = 9;
+        where = "promise 9";
         GapProofs x = new GapProofs();
         String[] ordered = {"*", "*.*", "a.*", "a", "*.a", "a.a", "z.a", "aa", "aaa", "a.aaa", "aab", "ab", "b"};
         for (int i = ordered.length - 1; i >= 0; i--) {
@@ -473,7 +378,7 @@ public final class PromisesTest {
     }
 
     private static void letter() {
-        promise = 10;
+        where = "promise 10";
         GapProofs x = new GapProofs();
         due("letter(0, 0) of the root", x.letter(0, 0), BAD);
         call(x, "*.xy.a");
@@ -490,7 +395,7 @@ public final class PromisesTest {
     // ---- 11 to 13
 
     private static void zone() {
-        promise = 11;
+        where = "promise 11";
         GapProofs x = told("zone a;plain b.a;zone c.b.a;rec a a 1;rec b.a a 1;rec c.b.a t 1;rec x.c.b.a t 1;rec d t 1;");
         row("zone 0", zoneRow(x, 0), 1, NONE, 0, 3, 1, 1, 1, 10);
         row("zone 1", zoneRow(x, 1), 1, 0, 1, 2, 1, 1, 1, 11);
@@ -513,7 +418,7 @@ public final class PromisesTest {
     }
 
     private static void key() {
-        promise = 12;
+        where = "promise 12";
         GapProofs x = told("zone a;plain b;");
         x.tick(4);
         x.publish(1, 999);
@@ -540,7 +445,7 @@ public final class PromisesTest {
     }
 
     private static void rule() {
-        promise = 13;
+        where = "promise 13";
         GapProofs x = told("zone a;zone b;rec a a 1;span 3;");
         x.tick(2);
         call(x, "a");
@@ -574,7 +479,7 @@ public final class PromisesTest {
     }
 
     private static void answer() {
-        promise = 14;
+        where = "promise 14";
         GapProofs x = told("zone a;plain p;zone s.p;rec b.a t 5;rec *.c.a m 7;rec c.p a 8;rec y.*.d.a a 1;rec . a 0;");
         answerOf(x, "b.a", 1, 0, 5, 1);
         answerOf(x, "b.a", 0, 1, NONE, 1);
@@ -619,7 +524,7 @@ public final class PromisesTest {
     }
 
     private static void ask() {
-        promise = 15;
+        where = "promise 15";
         GapProofs x = told("zone a;zone b.a;plain c.b.a;rec d.b.a a 1;rec x.c.b.a a 1;rec *.e.b.a t 2;rec g.f.b.a t 2;rec h t 3;");
         for (int n : FAR) due("ask far", x.ask(n), BAD);
         due("ask(3)", x.ask(3), BAD);
@@ -677,7 +582,7 @@ public final class PromisesTest {
     }
 
     private static void item() {
-        promise = 16;
+        where = "promise 16";
         GapProofs x = told("zone ab;rec b.ab t 9;");
         due("item(0, 0) without a proof", x.item(0, 0), STATE);
         due("item(-1, 0) without a proof", x.item(-1, 0), BAD);
@@ -698,14 +603,8 @@ public final class PromisesTest {
         row("item 3", itemRow(x, 3), 2, 1, 2, NONE, 1, 9, 0, 0, 11);
     }
 
-    private static int mixed(int... numbers) {
-        int h = 7;
-        for (int n : numbers) h = (h * 31 + n) % 9973;
-        return h;
-    }
-
     private static void itemMarks() {
-        promise = 16;
+        where = "promise 16";
         GapProofs x = told("zone ab;rec *.xyz.ab t 9;");
         call(x, "q.xyz.ab");
         x.ask(1);
@@ -726,7 +625,7 @@ public final class PromisesTest {
     }
 
     private static void lose() {
-        promise = 17;
+        where = "promise 17";
         GapProofs x = told("zone a;rec b.a t 9;");
         due("lose(0) without a proof", x.lose(0), STATE);
         due("lose(-1) without a proof", x.lose(-1), BAD);
@@ -750,7 +649,7 @@ public final class PromisesTest {
     }
 
     private static void alter() {
-        promise = 18;
+        where = "promise 18";
         GapProofs x = told("rec a t 9;");
         due("alter without a proof", x.alter(0, 4, 0), STATE);
         due("alter of 3 without a proof", x.alter(0, 3, 0), BAD);
@@ -780,7 +679,7 @@ public final class PromisesTest {
     }
 
     private static void rename() {
-        promise = 19;
+        where = "promise 19";
         GapProofs x = told("rec b.a t 9;");
         due("rename without a proof", x.rename(0, 0), STATE);
         due("rename(0, 2) without a proof", x.rename(0, 2), BAD);
@@ -807,7 +706,7 @@ public final class PromisesTest {
     }
 
     private static void sign() {
-        promise = 20;
+        where = "promise 20";
         GapProofs x = told("rec a t 9;");
         due("sign without a proof", x.sign(0), STATE);
         due("sign(-1) without a proof", x.sign(-1), BAD);
@@ -828,7 +727,7 @@ public final class PromisesTest {
     }
 
     private static void check() {
-        promise = 21;
+        where = "promise 21";
         GapProofs x = told("zone a;plain p;rec b.a t 5;rec *.c.a m 7;rec d.a a 9;rec f.e.a a 1;rec x.p a 1;");
         due("check() without a proof", x.check(), STATE);
         due("checked(0)", x.checked(0), STATE);
@@ -844,7 +743,7 @@ public final class PromisesTest {
     }
 
     private static void checkBroken() {
-        promise = 21;
+        where = "promise 21";
         GapProofs x = told("zone a;zone b.a;rec c.b.a t 5;");
         call(x, "c.b.a");
         // Without a cache: of each item, what its loss breaks.
@@ -881,7 +780,7 @@ public final class PromisesTest {
     }
 
     private static void checkTampered() {
-        promise = 21;
+        where = "promise 21";
         GapProofs x = told("zone a;rec c.a t 5;");
         call(x, "c.a");
         x.ask(1);
@@ -930,7 +829,7 @@ public final class PromisesTest {
     }
 
     private static void checkStarAndGap() {
-        promise = 21;
+        where = "promise 21";
         GapProofs x = told("rec b a 5;rec d a 5;");
         call(x, "c");
         x.ask(0);
@@ -985,7 +884,7 @@ public final class PromisesTest {
     }
 
     private static void checkPlain() {
-        promise = 21;
+        where = "promise 21";
         GapProofs x = told("zone a;plain b.a;zone c.b.a;rec d.c.b.a a 1;");
         call(x, "d.c.b.a");
         due("ask(0)", x.ask(0), 4);
@@ -1024,7 +923,7 @@ public final class PromisesTest {
 
     /** What is KNOWN from the cache needs no item ahead: the one that is wanted may be item 0. */
     private static void checkFirstItem() {
-        promise = 21;
+        where = "promise 21";
         GapProofs x = told("zone a;plain b;rec c.a a 3;rec e.d t 1;");
         call(x, ".");
         x.ask(0);
@@ -1057,7 +956,7 @@ public final class PromisesTest {
     }
 
     private static void checked() {
-        promise = 22;
+        where = "promise 22";
         GapProofs x = told("zone a;rec b.a a 3;rec *.a t 4;");
         due("checked(0)", x.checked(0), STATE);
         due("checked(3)", x.checked(3), BAD);
@@ -1096,7 +995,7 @@ public final class PromisesTest {
     }
 
     private static void entry() {
-        promise = 23;
+        where = "promise 23";
         GapProofs x = told("zone a;rec b.a a 3;");
         due("entry(0, 0) of none", x.entry(0, 0), NONE);
         due("entry(-1, 0)", x.entry(-1, 0), BAD);
@@ -1133,7 +1032,7 @@ public final class PromisesTest {
     }
 
     private static void entryOrder() {
-        promise = 23;
+        where = "promise 23";
         GapProofs x = told("zone a;zone b.a;zone c.b.a;rec d.c.b.a a 1;rec e.a a 2;");
         call(x, "d.c.b.a");
         due("ask(0)", x.ask(0), 8);
@@ -1167,7 +1066,7 @@ public final class PromisesTest {
     }
 
     private static void cacheSpan() {
-        promise = 23;
+        where = "promise 23";
         GapProofs x = told("zone a;zone b;rec e.a a 2;rec e.b a 2;span 5;");
         call(x, "e.a");
         x.ask(0);
@@ -1205,7 +1104,7 @@ public final class PromisesTest {
     // ---- 24 to 30
 
     private static void tick() {
-        promise = 24;
+        where = "promise 24";
         GapProofs x = new GapProofs();
         for (int n : FAR) if (n != 1000000) due("tick far", x.tick(n), BAD);
         due("tick(0)", x.tick(0), BAD);
@@ -1226,7 +1125,7 @@ public final class PromisesTest {
     private static final String ZONES = "zone a;plain b;span 5;";
 
     private static void publish() {
-        promise = 25;
+        where = "promise 25";
         GapProofs x = told(ZONES);
         for (int n : FAR) {
             due("publish far z", x.publish(n, 5), BAD);
@@ -1250,7 +1149,7 @@ public final class PromisesTest {
     }
 
     private static void retire() {
-        promise = 26;
+        where = "promise 26";
         GapProofs x = told(ZONES);
         for (int n : FAR) {
             due("retire far z", x.retire(n, 5), BAD);
@@ -1277,7 +1176,7 @@ public final class PromisesTest {
     }
 
     private static void digest() {
-        promise = 27;
+        where = "promise 27";
         GapProofs x = told(ZONES);
         for (int n : FAR) {
             due("digest far z", x.digest(n, 5), BAD);
@@ -1300,7 +1199,7 @@ public final class PromisesTest {
     }
 
     private static void undigest() {
-        promise = 28;
+        where = "promise 28";
         GapProofs x = told(ZONES);
         for (int n : FAR) {
             due("undigest far z", x.undigest(n, 5), BAD);
@@ -1321,7 +1220,7 @@ public final class PromisesTest {
     }
 
     private static void why() {
-        promise = 29;
+        where = "promise 29";
         GapProofs x = told(ZONES);
         for (int n : FAR) {
             due("why far z", x.why(n, 5), BAD);
@@ -1358,7 +1257,7 @@ public final class PromisesTest {
     }
 
     private static void activate() {
-        promise = 30;
+        where = "promise 30";
         GapProofs x = told(ZONES);
         for (int n : FAR) {
             due("activate far z", x.activate(n, 5), BAD);
@@ -1381,7 +1280,7 @@ public final class PromisesTest {
     }
 
     private static void rollover() {
-        promise = 30;
+        where = "promise 30";
         GapProofs x = told("zone a;rec c.a t 5;span 5;");
         call(x, "c.a");
         x.ask(1);
@@ -1416,7 +1315,7 @@ public final class PromisesTest {
     // ---- 31 to 34
 
     private static void put() {
-        promise = 31;
+        where = "promise 31";
         GapProofs x = told("zone a;rec b.a t 5;");
         for (int n : FAR) {
             due("put far sort", x.put(n, 5), BAD);
@@ -1448,7 +1347,7 @@ public final class PromisesTest {
     }
 
     private static void remove() {
-        promise = 32;
+        where = "promise 32";
         GapProofs x = told("zone a;rec b.a t 5;rec c.a t 6;rec b.a m 7;rec . a 1;");
         for (int n : FAR) due("remove far", x.remove(n), BAD);
         due("remove(3)", x.remove(3), BAD);
@@ -1468,7 +1367,7 @@ public final class PromisesTest {
     }
 
     private static void keep() {
-        promise = 33;
+        where = "promise 33";
         GapProofs x = new GapProofs();
         for (int n : FAR) due("keep far", x.keep(n), BAD);
         due("keep(2)", x.keep(2), BAD);
@@ -1486,7 +1385,7 @@ public final class PromisesTest {
     }
 
     private static void back() {
-        promise = 34;
+        where = "promise 34";
         GapProofs x = told("zone a;rec b.a t 5;span 4;");
         for (int n : FAR) due("back far", x.back(n), BAD);
         due("back(2)", x.back(2), BAD);
