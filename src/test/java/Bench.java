@@ -176,6 +176,69 @@ abstract class Bench {
         return r;
     }
 
+    /** THE NAME as it is written in a text. */
+    static String dotted(GapProofs x) {
+        StringBuilder s = new StringBuilder();
+        for (int i = x.name(0) - 1; i >= 0; i--) {
+            if (s.length() > 0) s.append('.');
+            for (int k = 0; k < 3 && x.letter(i, k) > 0; k++) s.append(x.letter(i, k) == 27 ? '*' : (char) (x.letter(i, k) + 96));
+        }
+        return s.length() == 0 ? "." : s.toString();
+    }
+
+    static String ownersOf(GapProofs x, int z) {
+        StringBuilder s = new StringBuilder();
+        for (int i = 0; x.owner(z, i) >= 0; i++) s.append(i == 0 ? "" : " ").append(dotted(x));
+        return s.toString();
+    }
+
+    static void same(String call, String got, String want) {
+        if (!got.equals(want)) {
+            wrong++;
+            System.out.println(where + ": " + call + " answered " + got + ", due is " + want);
+        }
+    }
+
+    /** How many LABELS, and their letters, 0 behind each, LABEL 0 first. */
+    static int[] lettersOf(String dotted) {
+        if (dotted.equals(".")) return new int[] {0};
+        String[] labels = dotted.split("\\.");
+        int[] r = {labels.length};
+        for (int i = labels.length - 1; i >= 0; i--) {
+            for (char c : labels[i].toCharArray()) r = with(r, c == '*' ? 27 : c - 96);
+            r = with(r, 0);
+        }
+        return r;
+    }
+
+    /** Kind, ZONE, SORT, A, B, C, KEY as numbers; no NEXT where it is no LINK. The NAMES are told by CONTENT and MARK alone. */
+    static void itemIs(GapProofs x, int i, String owner, String next, int... n) {
+        int[] o = lettersOf(owner), t = next == null ? new int[] {0} : lettersOf(next);
+        row("item " + i, itemRow(x, i), n[0], n[1], o[0], next == null ? NONE : t[0], n[2], n[3], n[4], n[5], n[6]);
+        int content = mixed(with(with(with(new int[] {n[0], n[1]}, o), t), n[2], n[3], n[4], n[5]));
+        due("CONTENT of item " + i, x.item(i, 10), content);
+        due("MARK of item " + i, x.item(i, 9), (int) ((content * (2L * n[6] + 1) + n[6]) % 9973));
+    }
+
+    static void linkIs(GapProofs x, int i, int zone, String owner, String next, int sorts, int key) {
+        itemIs(x, i, owner, next, 3, zone, sorts, 0, 0, 0, key);
+    }
+
+    static void recordIs(GapProofs x, int i, int zone, String owner, int sort, int value, int key) {
+        itemIs(x, i, owner, null, 2, zone, sort, value, 0, 0, key);
+    }
+
+    static void answerIs(GapProofs x, String dotted, int sort, int which, int value) {
+        call(x, dotted);
+        due("answer(" + sort + ", 0) to " + dotted, x.answer(sort, 0), which);
+        due("answer(" + sort + ", 1) to " + dotted, x.answer(sort, 1), value);
+    }
+
+    static void checkIs(GapProofs x, String of, int outcome, int value, int zone, int came) {
+        due("check() of " + of, x.check(), outcome);
+        row("checked() of " + of, new int[] {x.checked(0), x.checked(1), x.checked(2)}, value, zone, came);
+    }
+
     // ---- all that can be read
 
     static int[] atOnce(GapProofs x) {
