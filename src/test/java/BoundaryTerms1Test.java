@@ -624,6 +624,24 @@ public final class BoundaryTerms1Test extends Bench {
         row("ITEMS and ENTRIES", itemsAndEntries(x), itemsAndEntries(told(BEFORE)));
     }
 
+    /** Nothing of the KEYS and DIGESTS that were there is in what a PROOF tells then. */
+    private static void terms1TextThatIsTakenIsAnewForItsProofs() {
+        GapProofs x = told(BEFORE);
+        for (int z = 0; z < 2; z++) {
+            x.publish(z, 20);
+            x.publish(z, 30);
+            x.digest(z, 20);
+        }
+        due("check()", askAndCheck(x, "c.a", 1), 0);
+        due("text()", tell(x, BEFORE), 5);
+        due("ask(1)", ask(x, "c.a", 1), 4);
+        itemIs(x, 0, ".", null, 1, 0, 0, 10, 0, 0, 10);
+        itemIs(x, 1, "a", null, 0, 1, 0, 11, 0, 0, 10);
+        itemIs(x, 2, "a", null, 1, 1, 0, 11, 0, 0, 11);
+        due("check()", x.check(), 0);
+        row("ENTRY 2", entryRow(x, 2), 1, 1, 11, 0, 0, 1, 20);
+    }
+
     private static void terms1TextWithAFaultLeavesAllThatWasTold() {
         String[] faulty = {"zone q;rec c.a t 9;span 3;?", "zone q;rec c.a t 9;span 3;zone", "rec c.a t 9;span 61;",
             "span 3;rec q a 1;span 3;", "plain q;rec c.a t 9;zone q;"};

@@ -617,6 +617,63 @@ public final class BoundaryTerms3Test extends Bench {
         checkIs(x, "d.c.b.a", 4, NONE, 0, 0);
     }
 
+    /** NEXT is the NAME and the APEX at once: CLOSEST is ABOVE the NAME, not the NAME itself. */
+    private static void terms3ClosestIsAboveTheNameThoughItIsNext() {
+        GapProofs x = asked("zone a;", "a", 0);
+        linkIs(x, 3, 1, "a", "a", 32, 11);
+        due("check()", x.check(), 1);
+        renameAndSign(x, 3, 0, "*");
+        due("with OWNER *, the STAR of the ROOT", x.check(), 3);
+        alterAndSign(x, 3, 4, 1);
+        due("with the SORT", x.check(), BROKEN_4);
+        renameAndSign(x, 3, 0, ".");
+        due("with OWNER that is the ROOT", x.check(), 4);
+        renameAndSign(x, 3, 0, "b");
+        due("with OWNER behind", x.check(), BROKEN_3);
+    }
+
+    // ---- which ITEMS are there
+
+    /** KNOWN KEYS by ENTRIES need no ITEM ahead: what is looked for may be ITEM 0. */
+    private static void terms3TheFirstItemCountsWhateverItIs() {
+        GapProofs x = told("zone a;plain b;rec c.a a 3;rec e.d t 1;rec * m 4;");
+        due("check() of the ROOT", askAndCheck(x, ".", 0), 1);
+        String[] names = {".", "d", "b", "q", "q", "*.d"};
+        int[] sorts = {0, 0, 0, 2, 0, 0}, outcomes = {1, 1, INSECURE, 2, 3, 4};
+        for (int n = 0; n < names.length; n++) {
+            ask(x, names[n], sorts[n]);
+            x.lose(0);
+            due("check() of " + names[n] + " without KEYS", x.check(), outcomes[n]);
+        }
+        ask(x, "c.a", 0);
+        x.lose(0);
+        checkIs(x, "c.a by DIGESTS as ITEM 0", 0, 3, 1, 2);
+        x.lose(0);
+        x.lose(0);
+        checkIs(x, "c.a by the RECORD as ITEM 0", 0, 3, 1, 0);
+    }
+
+    /** What is lost is gone for the next CHECK, though the one before has seen it. */
+    private static void lostBehindACheck(String text, String name, int sort, int... outcomes) {
+        for (int i = 0; i < outcomes.length; i++) {
+            GapProofs x = asked(text, name, sort);
+            x.check();
+            x.tick(10);
+            x.lose(i);
+            due("check() of " + name + " without ITEM " + i, x.check(), outcomes[i]);
+        }
+    }
+
+    private static void terms3WhatIsLostBehindACheckIsGone() {
+        lostBehindACheck(ONE, "b.a", 0, BROKEN_2, BROKEN_1, BROKEN_2, BROKEN_3);
+        lostBehindACheck(ONE, "b.a", 1, BROKEN_2, BROKEN_1, BROKEN_2, BROKEN_3);
+        lostBehindACheck("zone a;rec c.b.a a 1;", "b.a", 0, BROKEN_2, BROKEN_1, BROKEN_2, BROKEN_3);
+        lostBehindACheck(PLAIN, "c.b.a", 0, BROKEN_2, BROKEN_1, BROKEN_2, BROKEN_1);
+        lostBehindACheck("rec * a 5;rec b t 6;", "c", 0, BROKEN_2, BROKEN_4, BROKEN_3);
+        lostBehindACheck("rec * a 5;rec b t 6;", "c", 1, BROKEN_2, BROKEN_4, BROKEN_3);
+        lostBehindACheck("rec b a 5;rec d a 5;", "c", 0, BROKEN_2, BROKEN_3, BROKEN_4);
+    }
+
     // ---- as it was made for, and as it is
 
     private static void terms3CheckIsForTheNameAndSortAsItWasMadeFor() {
